@@ -1,11 +1,16 @@
 /** Counts answers, tells those that are not as due, and feeds texts to a tape. */
 final class Check {
-    private final String name;
+    private String name;
     private int asked = 0;
     private int wrong = 0;
 
     Check(String name) {
         this.name = name;
+    }
+
+    /** The answers behind are told with this name. */
+    void begin(String test) {
+        name = test;
     }
 
     void due(String call, long got, long want) {
