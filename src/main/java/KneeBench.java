@@ -338,7 +338,7 @@ public final class KneeBench {
         if (noFarmer(farmer) || outside(day, 0, MAX_DAYS)) {
             return deny(STATUS_NO_SUCH);
         }
-        bench.cures[farmer] = day;
+        bench.cureOn(farmer, day);
         return allow();
     }
 
@@ -346,7 +346,7 @@ public final class KneeBench {
         if (noFarmer(farmer) || outside(n, 0, SIXTEENTHS)) {
             return deny(STATUS_NO_SUCH);
         }
-        bench.falses[farmer] = n;
+        bench.setFalse(farmer, n);
         return allow();
     }
 
@@ -863,7 +863,7 @@ public final class KneeBench {
     }
 
     private boolean noFarmer(int farmer) {
-        return farmer < 0 || farmer >= bench.farmers;
+        return !bench.hasFarmer(farmer);
     }
 
     private boolean noCouple(int a, int b) {
@@ -1035,6 +1035,10 @@ public final class KneeBench {
             return NONE;
         }
 
+        boolean hasFarmer(int f) {
+            return f >= 0 && f < farmers;
+        }
+
         boolean hasElbow(int f) {
             return (elbows >>> f & 1) != 0;
         }
@@ -1092,7 +1096,21 @@ public final class KneeBench {
         }
 
         void turn(int f, int day) {
-            twinges[f] ^= 1L << day;
+            if (hasFarmer(f)) {
+                twinges[f] ^= 1L << day;
+            }
+        }
+
+        void cureOn(int f, int day) {
+            if (hasFarmer(f)) {
+                cures[f] = day;
+            }
+        }
+
+        void setFalse(int f, int sixteenths) {
+            if (hasFarmer(f)) {
+                falses[f] = sixteenths;
+            }
         }
 
         void feelBy(Draws draws) {
@@ -1809,6 +1827,14 @@ public final class KneeBench {
             isThere = false;
         }
 
+        boolean hasRoom() {
+            return size < INSTRUCTIONS;
+        }
+
+        boolean hasPlace(int at) {
+            return at >= 0 && at < size;
+        }
+
         void copyFrom(Season other) {
             System.arraycopy(other.kinds, 0, kinds, 0, INSTRUCTIONS);
             System.arraycopy(other.farmers, 0, farmers, 0, INSTRUCTIONS);
@@ -1850,7 +1876,7 @@ public final class KneeBench {
         }
 
         private boolean readEnd() {
-            if (depth == 0) {
+            if (depth == 0 || !draft.hasRoom()) {
                 return tokens.fail(FAULT_MISPLACED);
             }
             depth--;
@@ -1867,7 +1893,7 @@ public final class KneeBench {
             if (!isStep(word)) {
                 return tokens.fail(FAULT_MISPLACED);
             }
-            if (draft.steps >= MAX_STEPS) {
+            if (draft.steps >= MAX_STEPS || !draft.hasRoom()) {
                 return tokens.fail(FAULT_TOO_MANY);
             }
             at = draft.size;
@@ -1964,7 +1990,7 @@ public final class KneeBench {
             wetDays = 0;
             isCut = false;
             int at = 0;
-            for (int turn = 0; turn < MAX_TURNS && at < season.size && !isCut; turn++) {
+            for (int turn = 0; turn < MAX_TURNS && season.hasPlace(at) && !isCut; turn++) {
                 boolean isStep = season.kinds[at] != W_END;
                 if (isStep && steps == STEPS_LIVED) {
                     isCut = true;
@@ -1997,7 +2023,7 @@ public final class KneeBench {
 
         private int goRound(Season season, int end) {
             int opener = season.partners[end];
-            if (season.kinds[opener] != W_LOOP) {
+            if (!season.hasPlace(opener) || season.kinds[opener] != W_LOOP) {
                 return end + 1;
             }
             rounds[opener]--;
@@ -2006,11 +2032,12 @@ public final class KneeBench {
 
         private static boolean holds(Bench bench, Season season, int at) {
             int number = season.numbers[at];
+            int farmer = season.farmers[at];
             switch (season.kinds[at]) {
                 case W_SAYS:
                     return bench.verdictOf(number) == 1;
                 case W_TRUST:
-                    return compare(bench.weights[season.farmers[at]], season.signs[at], number);
+                    return bench.hasFarmer(farmer) && compare(bench.weights[farmer], season.signs[at], number);
                 default:
                     return compare(bench.days, season.signs[at], number);
             }
@@ -2044,10 +2071,10 @@ public final class KneeBench {
                     bench.feelBy(draws);
                     break;
                 case W_CURE:
-                    bench.cures[farmer] = number;
+                    bench.cureOn(farmer, number);
                     break;
                 case W_BRANDY:
-                    bench.falses[farmer] = number;
+                    bench.setFalse(farmer, number);
                     break;
                 default:
                     lookBack(bench, season, at);
