@@ -12,7 +12,7 @@ import java.util.TreeSet;
 public final class EdgesTest {
     private static final Class<?>[] EDGES = {TrayEdges.class, BenchTextEdges.class, SeasonTextEdges.class,
         FeltEdges.class, VoteEdges.class, NeededEdges.class,
-        LifeEdges.class};
+        LifeEdges.class, TermsEdges.class};
     private static final int PROMISES = 70;
     private static final String STATUSES = "tray 1;write 1 2 3;read 1 2 3;pour 1 2 8 3;bench 1 9;season 1 9;told 1;"
             + "farmer 1 6;dislikes 1;weather 1;should 1;twinges 1;twinge 1;feel 1;lie 1;cure 1;brandy 1;day 1 4;tells 1 6;"

@@ -68,6 +68,7 @@ final class Run {
     }
 
     private static final Call STATUS = new Call("status");
+    private static final Call TOP = new Call("top");
     private static final Call NEVER_ANSWERED = new Call("told", -1);
 
     private final KneeBench x = new KneeBench();
@@ -255,6 +256,76 @@ final class Run {
         for (Call c : other.reads(0)) {
             if (List.of(names).contains(c.name)) {
                 C.due(c + " as in the other run", answer(c), other.answer(c));
+            }
+        }
+    }
+
+    /** Whatever is asked of so many farmers is answered as in another run, but for these calls. */
+    void tellsLike(Run other, int farmers, String... but) {
+        List<Call> asking = new ArrayList<>();
+        for (Call c : everyQuestion(farmers)) {
+            if (!List.of(but).contains(c.name)) {
+                asking.add(c);
+            }
+        }
+        int room = (MOST_CALLS - Math.max(calls.size(), other.calls.size())) / 3;
+        for (int i = 0; i < asking.size(); i += room) {
+            Run one = copy();
+            Run two = other.copy();
+            for (Call c : asking.subList(i, Math.min(i + room, asking.size()))) {
+                C.due(c + " as in the other run", one.answer(c), two.answer(c));
+                C.due("status() of " + c + " as in the other run", one.answer(STATUS), two.answer(STATUS));
+                boolean isFraction = List.of("trust", "odds", "hay").contains(c.name);
+                if (isFraction) {
+                    C.due("top() of " + c + " as in the other run", one.answer(TOP), two.answer(TOP));
+                }
+            }
+        }
+    }
+
+    private static List<Call> everyQuestion(int farmers) {
+        List<Call> list = new ArrayList<>();
+        for (String name : List.of("kept", "truest", "silent", "bestLaw", "fever")) {
+            add(list, name);
+        }
+        for (int what = 0; what < 5; what++) {
+            for (String name : List.of("told", "keptBy", "spell", "lies", "warned", "fewest")) {
+                add(list, name, what);
+            }
+        }
+        for (int f = 0; f < farmers; f++) {
+            questionsOfOne(list, f, farmers);
+        }
+        for (int d = 0; d < 63; d++) {
+            for (String name : List.of("says", "tips", "believers", "flips", "sure", "weather", "nextWrong")) {
+                add(list, name, d);
+            }
+            add(list, "span", d, 62);
+            add(list, "wedding", d / 2, d);
+            add(list, "odds", d, 1 + d % 15);
+            add(list, "hay", d, 1 + d % 3, 1 + d % 15);
+        }
+        return list;
+    }
+
+    private static void questionsOfOne(List<Call> list, int f, int farmers) {
+        for (String name : List.of("right", "trust", "toldBy", "lag", "quiet", "useful", "mood", "foe", "rival", "streak",
+                "agrees")) {
+            add(list, name, f);
+        }
+        for (int other = 0; other < farmers; other++) {
+            for (String name : List.of("dislikes", "alike", "clashes")) {
+                add(list, name, f, other);
+            }
+        }
+        for (int what = 0; what < 7; what++) {
+            add(list, "farmer", f, what);
+            add(list, "wrongs", f, what);
+            add(list, "fits", f, what - 3);
+        }
+        for (int d = 0; d < 63; d++) {
+            for (String name : List.of("should", "twinges", "tells")) {
+                add(list, name, f, d);
             }
         }
     }
