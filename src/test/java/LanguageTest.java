@@ -23,6 +23,7 @@ public final class LanguageTest {
         members();
         words(code);
         making(code);
+        shortMethods(source);
         wildCalls();
         C.finish();
     }
@@ -129,6 +130,26 @@ public final class LanguageTest {
                 C.due("made with the object: " + line.trim(), line.trim().startsWith("private final "), true);
             }
         }
+    }
+
+    /** At most sixty lines from a method's head to the brace below it, and at most seven parameters. */
+    private static void shortMethods(String source) {
+        String[] lines = source.split("\n");
+        int methods = 0;
+        for (int i = 0; i < lines.length; i++) {
+            Matcher head = Pattern.compile("^( +)[\\w\\[\\] ]*\\w\\((.*)\\) \\{$").matcher(lines[i]);
+            if (head.find() && (head.group(1).length() == 4 || head.group(1).length() == 8) && !lines[i].contains(" if (")
+                    && !lines[i].contains(" for (") && !lines[i].contains(" while (") && !lines[i].contains(" switch (")) {
+                int end = i;
+                while (end < lines.length && !lines[end].equals(head.group(1) + "}")) {
+                    end++;
+                }
+                C.due("lines of" + lines[i] + " " + (end - i + 1), end - i + 1 <= 60, true);
+                C.due("parameters of" + lines[i], head.group(2).split(",").length <= 7, true);
+                methods++;
+            }
+        }
+        C.due("methods were seen: " + methods, methods > 150, true);
     }
 
     /** No call throws, whatever it is asked in whatever state. */
